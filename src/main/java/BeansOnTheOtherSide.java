@@ -62,14 +62,12 @@ public final class BeansOnTheOtherSide {
     // ---- the treaty as told
 
     public int treaty(int d) {
-        if (!isShelf(d)) {
-            return NO_SUCH;
+        int refusal = refusalUnless(Shelf.ROW, d);
+        if (refusal != 0) {
+            return refusal;
         }
         Shelf text = shelves[d];
-        if (text.holds == Shelf.NOTHING) {
-            return NOTHING_HELD;
-        }
-        if (text.holds != Shelf.ROW || text.sort != Shelf.BYTES) {
+        if (text.sort != Shelf.BYTES) {
             return OTHER_KIND;
         }
         int bad = firstBadByte(text);
@@ -78,11 +76,13 @@ public final class BeansOnTheOtherSide {
         }
         mind.becomeLike(now);
         int statements = 0;
-        for (int i = 0; i < text.size; i += digitsBehind(text.at(i)) + 2) {
-            if (!mind.obeys(text, i)) {
-                return -2000 - i;
+        for (int i = 0; i < text.size; i++) {
+            if (isLetter(text.at(i))) {
+                if (!mind.obeys(text, i)) {
+                    return -2000 - i;
+                }
+                statements++;
             }
-            statements++;
         }
         now.becomeLike(mind);
         return statements;
@@ -128,7 +128,7 @@ public final class BeansOnTheOtherSide {
         if (!isShelf(d) || !isWakerOrNobody(w)) {
             return NO_SUCH;
         }
-        int refusal = refusalOfKind(d);
+        int refusal = refusalUnless(Shelf.KIND, d);
         if (refusal != 0) {
             return refusal;
         }
@@ -361,7 +361,7 @@ public final class BeansOnTheOtherSide {
         if (!isShelf(d) || !now.has(k) || !isBetween(what, 0, 1)) {
             return NO_SUCH;
         }
-        int refusal = refusalOfRow(d);
+        int refusal = refusalUnless(Shelf.ROW, d);
         if (refusal != 0) {
             return refusal;
         }
@@ -385,7 +385,7 @@ public final class BeansOnTheOtherSide {
         if (!isShelf(d) || !isBetween(what, 0, 2)) {
             return NO_SUCH;
         }
-        int refusal = refusalOfRow(d);
+        int refusal = refusalUnless(Shelf.ROW, d);
         if (refusal != 0) {
             return refusal;
         }
@@ -454,7 +454,7 @@ public final class BeansOnTheOtherSide {
     // ---- told folios, years by seeds
 
     public int forged(int d) {
-        int refusal = refusalOfRow(d);
+        int refusal = refusalUnless(Shelf.ROW, d);
         if (refusal != 0) {
             return refusal;
         }
@@ -468,7 +468,7 @@ public final class BeansOnTheOtherSide {
     }
 
     public int judge(int d) {
-        int refusal = refusalOfRow(d);
+        int refusal = refusalUnless(Shelf.ROW, d);
         if (refusal != 0) {
             return refusal;
         }
@@ -569,7 +569,7 @@ public final class BeansOnTheOtherSide {
     }
 
     public int put(int d, int i, int v) {
-        int refusal = refusalOfRow(d);
+        int refusal = refusalUnless(Shelf.ROW, d);
         if (refusal != 0) {
             return refusal;
         }
@@ -611,7 +611,7 @@ public final class BeansOnTheOtherSide {
     }
 
     public int cost(int d) {
-        int refusal = refusalOfKind(d);
+        int refusal = refusalUnless(Shelf.KIND, d);
         if (refusal != 0) {
             return refusal;
         }
@@ -619,7 +619,7 @@ public final class BeansOnTheOtherSide {
     }
 
     public int toss(int d) {
-        int refusal = refusalOfKind(d);
+        int refusal = refusalUnless(Shelf.KIND, d);
         if (refusal != 0) {
             return refusal;
         }
@@ -655,24 +655,15 @@ public final class BeansOnTheOtherSide {
         return kinds[isBetween(number, 0, KINDS - 1) ? number : 0];
     }
 
-    private int refusalOfRow(int d) {
+    /** 0, or why SHELF d can't be taken for one that holds what is wanted. */
+    private int refusalUnless(int wanted, int d) {
         if (!isShelf(d)) {
             return NO_SUCH;
         }
         if (shelves[d].holds == Shelf.NOTHING) {
             return NOTHING_HELD;
         }
-        return shelves[d].holds == Shelf.ROW ? 0 : OTHER_KIND;
-    }
-
-    private int refusalOfKind(int d) {
-        if (!isShelf(d)) {
-            return NO_SUCH;
-        }
-        if (shelves[d].holds == Shelf.NOTHING) {
-            return NOTHING_HELD;
-        }
-        return shelves[d].holds == Shelf.KIND ? 0 : OTHER_KIND;
+        return shelves[d].holds == wanted ? 0 : OTHER_KIND;
     }
 
     private static long refusedLong(int refusal) {
@@ -681,7 +672,7 @@ public final class BeansOnTheOtherSide {
 
     // ---- the text of a treaty
 
-    /** How many digits stand behind a letter; -1 if no statement begins with it. */
+    /** How many digits stand behind a letter; 0 if no statement begins with it. */
     private static int digitsBehind(int letter) {
         switch (letter) {
             case 'z':
@@ -695,8 +686,12 @@ public final class BeansOnTheOtherSide {
             case 'o':
                 return 3;
             default:
-                return -1;
+                return 0;
         }
+    }
+
+    private static boolean isLetter(int b) {
+        return digitsBehind(b) > 0;
     }
 
     /** The place of the first byte with which no TREATY can go on; -1 if there is none. */
@@ -706,10 +701,10 @@ public final class BeansOnTheOtherSide {
         for (int i = 0; i < text.size; i++) {
             int b = text.at(i);
             if (letterIsDue) {
-                digitsDue = digitsBehind(b);
-                if (digitsDue < 0) {
+                if (!isLetter(b)) {
                     return i;
                 }
+                digitsDue = digitsBehind(b);
                 letterIsDue = false;
             } else if (digitsDue > 0) {
                 if (!isBetween(b, '0', '9')) {

@@ -68,6 +68,8 @@ public final class ModelTest {
                 tellBags();
             } else if (dice == 3) {
                 tellFolio();
+            } else if (dice == 4) {
+                copyWhole();
             } else {
                 String[] which = ARGUMENTS[random.nextInt(ARGUMENTS.length)];
                 if (which[0].equals("days") && random.nextInt(3) != 0) {
@@ -227,6 +229,16 @@ public final class ModelTest {
         }
         rowOf(random.nextInt(8), sort, told);
         call("forged", lastShelf());
+    }
+
+    private void copyWhole() throws Exception {
+        int n = random.nextInt(5);
+        rowOf(1, 1, random.ints(n, -3, 4).toArray());
+        call("row", 2, 1, n + random.nextInt(2));
+        call("copy", 1, 0, 2, 0, n);
+        for (int i = 0; i < n; i++) {
+            call("element", 2, i);
+        }
     }
 
     private void call(String name, int... arguments) throws Exception {

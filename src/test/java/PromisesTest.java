@@ -416,6 +416,11 @@ public final class PromisesTest {
         Due.is("58 days of bags", x.firstAsleep(1), 58);
         x = Rows.after("k301;k301;k301;b173;");
         Due.is("a bag too few", x.firstAsleep(1), -4);
+        // Two nurses, and a lover who tires 2 on days 1 and 5 of six: 56 and 4 on day 61.
+        x = Rows.after("d01;k300;k300;k540;t018;b999;");
+        Due.is("on the 60th day", x.firstAsleep(0), 60);
+        x.tires(0, 17);
+        Due.is("later than the 60th", x.firstAsleep(0), -4);
     }
 
     private static void promise15Out() {
@@ -480,18 +485,35 @@ public final class PromisesTest {
         x.bags(0);
         Due.is("bags do not matter", x.match(-1), 2);
         Due.is("no drinker", new BeansOnTheOtherSide().match(0), -1);
+        x = Rows.after("k009;k009;k009;k009;k009;k309;k009;");
+        for (int k = 0; k < 5; k++) {
+            Due.is("the first five of equals: " + k, x.match(k), k);
+        }
+        Due.is("the nurse has none", x.match(5), -4);
+        Due.is("the last has none", x.match(6), -4);
+        Due.is("5 by 2", x.match(-1), 10);
+        x = Rows.after("k009;");
+        x.image();
+        Rows.treaty(x, "k009;");
+        Due.is("two", x.match(-1), 4);
+        x.restore();
+        Due.is("one again", x.match(-1), 2);
     }
 
     private static void promise18Milk() {
         BeansOnTheOtherSide x = Rows.after("k009;k269;k009;");
         Due.is("the banker owes 10 a day, 4 by milk", x.milk(1), 1);
         Due.is("not less behind 0 days", x.milk(0), -4);
+        Due.is("milk is for the thought alone", x.then(1, 2), 14);
         x = Rows.after("k009;k009;");
         Due.is("of several the least", x.milk(3), 0);
         x = Rows.after("k000;k001;");
         Due.is("nothing owed, nothing less", x.milk(5), -4);
         x = Rows.after("k309;");
         Due.is("half of 1, cut, is 0", x.milk(1), 0);
+        // Of 5 cups 2 are left, 4 owed for 10; of a smuggler's 3 one is left, 2 owed for 6.
+        x = Rows.after("k269;k609;o099;");
+        Due.is("6 less by the banker, 4 by the smuggler", x.milk(1), 0);
         x = Rows.after("k109;");
         x.bags(1);
         Due.is("half of what he drinks is 1: as much as there is", x.milk(1), -4);
@@ -517,7 +539,10 @@ public final class PromisesTest {
         Due.is("fewest(31)", x.fewest(31), -1);
         Due.is("in mind alone", x.count(4), 0);
         Due.is("not refused", x.fewest(30), 31);
+        Due.is("sleep for ever is for the thought alone", x.then(1, 1), 0);
         // The first leaves no bag to the other.
+        x = Rows.after("k004;z3;t399;z4;t499;");
+        Due.is("who is asleep is so, kept or not", x.fewest(9), 16);
         x = Rows.after("k500;k001;b002;");
         Due.is("the first drinks all", x.fewest(2), 1);
     }
@@ -547,9 +572,16 @@ public final class PromisesTest {
         Due.is("20 a day: 49 days are 980", x.store(49), 981);
         Due.is("50 days are 1000", x.store(50), -4);
         x = Rows.after("k649;k649;k609;k309;");
-        // 7, 7, 3 and 1 are 18 a day, 55 days are 990.
+        // 7, 7, 3 and 1 are 18 a day: 55 days are 990.
         Due.is("990 and 1", x.store(55), 991);
         Due.is("1008", x.store(56), -4);
+        x = Rows.after("k109;k289;k289;k309;k009;");
+        Due.is("a clerk's 143, and 57 by 15: 999 is in range", x.store(57), 999);
+        x.days(1);
+        Due.is("142 from the second day on", x.store(57), 998);
+        x = Rows.after("k289;k289;k289;k289;k009;k309;");
+        Due.is("37 by 27 is 999: 1000 is not", x.store(37), -4);
+        Due.is("36 by 27", x.store(36), 973);
     }
 
     private static void promise21Heaviest() {
@@ -679,6 +711,10 @@ public final class PromisesTest {
         Due.is("two(-1, 0, 1)", x.two(-1, 0, 1), -1);
         Due.is("two(0, 1, 0)", x.two(0, 1, 0), -1);
         Due.is("two(0, 1, 31)", x.two(0, 1, 31), -1);
+        // Waker 1 sleeps on days 2 to 6. Alone the one has 69 less 62, the other 69 less 77;
+        // of both the one has 36 less 37, the other 33 less 31: no pair holds.
+        x = Rows.after("k671;k691;b069;t199;");
+        Due.is("each pair is left", x.two(0, 1, 9), -4);
         x = Rows.after("k309;k009;");
         Due.is("1 cup, 1 owed by 2, cut, is 0", x.two(0, 1, 1), 11);
     }
@@ -728,7 +764,7 @@ public final class PromisesTest {
         Due.is("mean(2)", x.mean(2), REFUSED);
         Due.is("mean(-1)", x.mean(-1), REFUSED);
         x = new BeansOnTheOtherSide();
-        Due.is("0", x.mean(0), 0);
+        Due.is("nobody tired: 0", x.mean(0), 0);
         Due.is("by 1 too", x.mean(1), 1);
     }
 
@@ -955,6 +991,9 @@ public final class PromisesTest {
         for (int i = 0; i < 5; i++) {
             Due.is("element(0, " + i + ")", x.element(0, i), own[i]);
         }
+        x.row(5, 0, 5);
+        Due.is("all of it", x.copy(0, 0, 5, 0, 5), 5);
+        Due.is("the last of it", x.element(5, 4), 4);
         Due.is("none at the end", x.copy(0, 5, 1, 3, 0), 0);
         Due.is("none beyond the end", x.copy(0, 6, 1, 3, 0), -13);
         Due.is("none beyond the other end", x.copy(0, 5, 1, 4, 0), -13);
