@@ -1,17 +1,24 @@
 import java.nio.file.Files;
 import java.nio.file.Path;
+import java.util.Set;
 import java.util.regex.Matcher;
 import java.util.regex.Pattern;
 
 /** What of ../shared/LANGUAGE.md can be seen in the text of the class. */
 public final class LanguageTest {
     private static final String[] FORBIDDEN = {
-        "->", "::", "@", "\\bsynchronized\\b", "\\bassert\\b", "\\bfinally\\b", "\\bgetMessage\\b",
-        "Exact\\b", "\\bSystem\\.(?!arraycopy\\b)", "\\bArrays\\.(?!fill\\b)",
-        "\\bMath\\.(?!max\\b|min\\b|abs\\b)", "\\bInteger\\.(?!bitCount\\b)", "\\bThread\\b",
-        "\\bRandom\\b", "\\bObject\\b", "\\bequals\\b", "\\bhashCode\\b", "\\btoString\\b", "\\bvar\\b",
-        "\\b(double|float)\\b", "\\bstatic \\{", "\\bwhile\\b", "\\bpackage\\b",
+        "(?m)^(?!\\s*(case|default)\\b).*->", "::", "@(?!Override\\b)", "\\bsynchronized\\b",
+        "\\bassert\\b", "\\bfinally\\b", "\\bgetMessage\\b", "Exact\\b", "\\bSystem\\.(?!arraycopy\\b)",
+        "\\bArrays\\.(?!fill\\b|copyOf\\b|copyOfRange\\b)",
+        "\\bMath\\.(?!max\\b|min\\b|abs\\b|floorDiv\\b|floorMod\\b)", "\\bThread\\b", "\\bRandom\\b",
+        "\\bObject\\b", "\\bboolean equals\\(", "\\bint hashCode\\(", "\\bString toString\\(",
+        "\\bstatic \\{", "\\bpackage\\b", "\\btry \\(", "\\bthrow (?!new \\w+\\((\"\")?\\);)",
     };
+    private static final Set<String> IMPORTS = Set.of("java.util.Arrays", "java.util.ArrayList",
+        "java.util.List", "java.util.Iterator", "java.util.NoSuchElementException");
+    private static final Set<String> EXCEPTIONS = Set.of("IllegalStateException",
+        "IllegalArgumentException", "IndexOutOfBoundsException", "ArithmeticException",
+        "UnsupportedOperationException", "NoSuchElementException", "RuntimeException");
 
     private LanguageTest() {
     }
@@ -19,24 +26,24 @@ public final class LanguageTest {
     public static void main(String[] args) throws Exception {
         String source = System.getProperty("source", "src/main/java/BeansOnTheOtherSide.java");
         String text = Files.readString(Path.of(source));
-        Due.holds("signs 1 to 127", text.chars().allMatch(c -> c == '\n' || c >= 32 && c < 127));
-        String code = text.replaceAll("(?s)/\\*.*?\\*/", "").replaceAll("//[^\n]*", "")
-            .replaceAll("\"[^\"]*\"", "\"\"");
+        String bare = text.replaceAll("(?s)/\\*.*?\\*/", "").replaceAll("//[^\n]*", "");
+        Due.holds("signs 1 to 127", bare.chars().allMatch(c -> c > 0 && c < 128));
+        String code = bare.replaceAll("\"[^\"]*\"", "\"\"");
         for (String forbidden : FORBIDDEN) {
-            Matcher m = Pattern.compile(forbidden).matcher(code);
-            Due.holds("no " + forbidden, !m.find());
+            Due.holds("no " + forbidden, !Pattern.compile(forbidden).matcher(code).find());
         }
-        Matcher imports = Pattern.compile("import ([^;]*);").matcher(code);
-        while (imports.find()) {
-            Due.holds("import " + imports.group(1), imports.group(1).equals("java.util.Arrays"));
-        }
-        Matcher caught = Pattern.compile("catch \\((\\w+) ").matcher(code);
-        while (caught.find()) {
-            Due.holds("catch of " + caught.group(1), caught.group(1).equals("IllegalStateException"));
-        }
+        each(code, "import ([^;]*);", IMPORTS);
+        each(code, "throw new (\\w+)", EXCEPTIONS);
+        each(code, "catch \\((\\w+) ", EXCEPTIONS);
         methodLengths(text.split("\n"));
-        thingsMade(code.split("\n"));
         Due.close();
+    }
+
+    private static void each(String code, String pattern, Set<String> allowed) {
+        Matcher found = Pattern.compile(pattern).matcher(code);
+        while (found.find()) {
+            Due.holds(found.group(), allowed.contains(found.group(1)));
+        }
     }
 
     private static void methodLengths(String[] lines) {
@@ -52,18 +59,5 @@ public final class LanguageTest {
                 begun = -1;
             }
         }
-    }
-
-    /** Behind the constructor nothing is made but what is thrown and the rows of a class inside. */
-    private static void thingsMade(String[] lines) {
-        boolean madeUp = false;
-        for (String line : lines) {
-            madeUp |= line.contains("public int treaty(");
-            if (madeUp && line.contains("new ")) {
-                Due.holds(line.trim() + " makes nothing in a call", line.contains("throw new ")
-                    || line.matches(" +private final int\\[\\] \\w+ = new int\\[[A-Z]+\\];"));
-            }
-        }
-        Due.holds("the face was found", madeUp);
     }
 }
