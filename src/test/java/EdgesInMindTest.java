@@ -305,6 +305,12 @@ public final class EdgesInMindTest {
         Due.is("ASLEEP again", Rows.treaty(x, "z0;z1;z2;z3;"), 4);
         Due.is("DAY 1000: 2 of any", x.match(-1), 2);
         Due.is("the CLERK, of equals", x.match(0), 4);
+        x = Rows.after("d01;k509;z0;");
+        Due.is("DAY 2: 2 of a LOVER", x.match(-1), 2);
+        Due.is("the LOVER", x.match(0), 1);
+        x.days(1);
+        Due.is("DAY 3: 0 of a LOVER", x.match(-1), 0);
+        Due.is("the LOVER for no cups", x.match(0), 0);
         x = Rows.after("d02;k509;k309;z0;z1;z2;z3;");
         Due.is("DAY 3: 1 of a NURSE, 0 of a LOVER", x.match(-1), 1);
         Due.is("the NURSE", x.match(1), 4);
