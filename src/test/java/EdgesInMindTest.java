@@ -159,6 +159,12 @@ public final class EdgesInMindTest {
         Due.is("on the 60th", x.firstAsleep(0), 60);
         x.tires(0, 17);
         Due.is("not on the 60th", x.firstAsleep(0), -4);
+        // From DAY 0 on: 18 and 38 on DAY 58, and 4 on the 59th; 16 and 40, and 4 on the 61st.
+        x = Rows.after("k300;k300;k540;t018;b999;");
+        Due.is("on the 59th", x.firstAsleep(0), 59);
+        x.tires(0, 16);
+        Due.is("on the 61st", x.firstAsleep(0), -4);
+        Due.is("AWAKE on the 60th", x.then(60, 1), 0);
     }
 
     private static void outNowAndBehindSixty() {

@@ -14,6 +14,7 @@ public final class EdgesOfDaysTest {
 
     public static void main(String[] args) {
         allAtFirst();
+        firstDaysOfANewObject();
         sevenDrinkersAtMost();
         sevenDrinkersByTreaty();
         eachWakerIsOneOfFive();
@@ -61,6 +62,31 @@ public final class EdgesOfDaysTest {
         }
         Due.is("nobody goes to DAY 1 with nothing OWED", x.days(1), 0);
         Due.is("BAGS stay", x.count(2), 60);
+    }
+
+    /** Without a treaty or an IMAGE, which would make all of it anew. */
+    private static void firstDaysOfANewObject() {
+        BeansOnTheOtherSide x = new BeansOnTheOtherSide();
+        x.keep(0, 1, 0, 0);
+        for (int k = 0; k < 7; k++) {
+            x.comes(0, k < 5 ? k : 9);
+        }
+        for (int w = 0; w < 5; w++) {
+            x.tires(w, 40);
+            x.sleeps(w);
+        }
+        Due.is("25 is ASLEEP: seven by 2", x.days(1), 14);
+        Due.is("BAGS", x.count(2), 46);
+        Due.is("all ASLEEP", x.count(4), 31);
+        Due.is("10 is AWAKE: two by 2", x.days(1), 18);
+        Due.is("BAGS", x.count(2), 32);
+        Due.is("all AWAKE", x.count(4), 0);
+        for (int k = 0; k < 7; k++) {
+            Due.is("OWED by " + k, x.drinker(k, 3), k < 5 ? 2 : 4);
+        }
+        for (int w = 0; w < 5; w++) {
+            Due.is("TIRED: 10 and 6, 2 less", x.waker(w, 0), 14);
+        }
     }
 
     private static void sevenDrinkersAtMost() {
