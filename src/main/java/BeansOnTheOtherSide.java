@@ -32,7 +32,6 @@ public final class BeansOnTheOtherSide {
     private static final int ALL_BUT_SIGN = 0x7fffffff;
     private static final int LEAST_INT = 0x80000000;
 
-    private final Drinker[] kinds;
     private final Camp now;
     private final Camp image;
     /** What is only thought of is tried here, so that no call makes anything new. */
@@ -45,11 +44,9 @@ public final class BeansOnTheOtherSide {
     private boolean imageTaken;
 
     public BeansOnTheOtherSide() {
-        kinds = new Drinker[] {new Drinker(), new Clerk(), new Banker(), new Nurse(),
-            new Captain(), new Lover(), new Smuggler(), new Saint()};
-        now = new Camp(kinds);
-        image = new Camp(kinds);
-        mind = new Camp(kinds);
+        now = new Camp();
+        image = new Camp();
+        mind = new Camp();
         shelves = new Shelf[SHELVES];
         for (int d = 0; d < SHELVES; d++) {
             shelves[d] = new Shelf();
@@ -615,7 +612,7 @@ public final class BeansOnTheOtherSide {
         if (refusal != 0) {
             return refusal;
         }
-        return kindNumbered(kinds, shelves[d].kind).priceOf(shelves[d].figure);
+        return now.kindNumbered(shelves[d].kind).priceOf(shelves[d].figure);
     }
 
     public int toss(int d) {
@@ -623,7 +620,7 @@ public final class BeansOnTheOtherSide {
         if (refusal != 0) {
             return refusal;
         }
-        Drinker one = kindNumbered(kinds, shelves[d].kind);
+        Drinker one = now.kindNumbered(shelves[d].kind);
         int figure = shelves[d].figure;
         try {
             one.failBy(figure);
@@ -649,10 +646,6 @@ public final class BeansOnTheOtherSide {
 
     private static boolean isShelf(int d) {
         return d >= 0 && d < SHELVES;
-    }
-
-    private static Drinker kindNumbered(Drinker[] kinds, int number) {
-        return kinds[isBetween(number, 0, KINDS - 1) ? number : 0];
     }
 
     /** 0, or why SHELF d can't be taken for one that holds what is wanted. */
@@ -1019,7 +1012,9 @@ public final class BeansOnTheOtherSide {
 
     /** All that there is but SHELVES: as it is now, in THE IMAGE, or in mind. */
     private static final class Camp {
-        private final Drinker[] kinds;
+        /** Each camp has its own: a constructor hands out nothing (rule 12 of LANGUAGE.md). */
+        private final Drinker[] kinds = {new Drinker(), new Clerk(), new Banker(), new Nurse(),
+            new Captain(), new Lover(), new Smuggler(), new Saint()};
         private final int[] kind = new int[DRINKERS];
         private final int[] figure = new int[DRINKERS];
         private final int[] waker = new int[DRINKERS];
@@ -1036,10 +1031,6 @@ public final class BeansOnTheOtherSide {
         private int halved = -1;
         private int dry = 0;
         private int asleepForEver = 0;
-
-        Camp(Drinker[] kinds) {
-            this.kinds = kinds;
-        }
 
         void becomeLike(Camp other) {
             System.arraycopy(other.kind, 0, kind, 0, DRINKERS);
@@ -1061,6 +1052,10 @@ public final class BeansOnTheOtherSide {
             return k >= 0 && k < people && k < DRINKERS;
         }
 
+        Drinker kindNumbered(int number) {
+            return kinds[isBetween(number, 0, KINDS - 1) ? number : 0];
+        }
+
         boolean isAwake(int w) {
             return isWaker(w) && (asleep >> w & 1) == 0;
         }
@@ -1078,7 +1073,7 @@ public final class BeansOnTheOtherSide {
         }
 
         int thirstOf(int k, int onDay) {
-            return has(k) ? kindNumbered(kinds, kind[k]).cupsOn(onDay, figure[k]) : 0;
+            return has(k) ? kindNumbered(kind[k]).cupsOn(onDay, figure[k]) : 0;
         }
 
         int thirstOfAll(int onDay) {
@@ -1115,7 +1110,7 @@ public final class BeansOnTheOtherSide {
             if (!has(k)) {
                 return;
             }
-            Drinker one = kindNumbered(kinds, kind[k]);
+            Drinker one = kindNumbered(kind[k]);
             int wish = (dry >> k & 1) != 0 ? 0 : one.cupsOn(day, figure[k]);
             int cups = Math.min(k == halved ? wish / 2 : wish, bagsLeft);
             bagsLeft -= cups;

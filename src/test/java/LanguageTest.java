@@ -1,5 +1,6 @@
 import java.nio.file.Files;
 import java.nio.file.Path;
+import java.util.HashSet;
 import java.util.Set;
 import java.util.regex.Matcher;
 import java.util.regex.Pattern;
@@ -36,6 +37,7 @@ public final class LanguageTest {
         each(code, "throw new (\\w+)", EXCEPTIONS);
         each(code, "catch \\((\\w+) ", EXCEPTIONS);
         methodLengths(text.split("\n"));
+        constructorsKeepTheirOwn(code);
         Due.close();
     }
 
@@ -59,5 +61,30 @@ public final class LanguageTest {
                 begun = -1;
             }
         }
+    }
+
+    /** Rule 12: no constructor gives its object, or one of its fields, to another. */
+    private static void constructorsKeepTheirOwn(String code) {
+        Set<String> own = new HashSet<>(Set.of("this"));
+        Matcher field = Pattern.compile("(?m)^ {4,8}private final [\\w\\[\\]]+ (\\w+)( =|;)").matcher(code);
+        while (field.find()) {
+            own.add(field.group(1));
+        }
+        Due.holds("fields are seen", own.size() > 1);
+        int seen = 0;
+        Matcher head = Pattern.compile("(?m)^( {4,8})(public )?[A-Z]\\w*\\([^)]*\\) \\{$").matcher(code);
+        while (head.find()) {
+            int end = code.indexOf("\n" + head.group(1) + "}", head.end());
+            Due.holds("a constructor ends", end >= 0);
+            seen++;
+            String body = code.substring(head.end(), Math.max(end, head.end()));
+            Matcher given = Pattern.compile("\\w+\\(([^()]*)\\)").matcher(body);
+            while (given.find()) {
+                for (String argument : given.group(1).split(",")) {
+                    Due.holds("a constructor gives away " + argument, !own.contains(argument.trim()));
+                }
+            }
+        }
+        Due.holds("a constructor is seen", seen > 0);
     }
 }
